@@ -5,6 +5,8 @@ final class Check {
     /** Stands for an answer that is a NoSuchElementException. */
     static final long THROWS = Long.MIN_VALUE;
 
+    private static final int MOST_SHOWN = 40;
+
     interface Call {
         long answer();
     }
@@ -18,17 +20,21 @@ final class Check {
     }
 
     void due(String call, long got, long want) {
-        asked++;
-        if (got != want) {
-            wrong++;
-            if (wrong <= 40) {
-                System.out.println(call + " answered " + shown(got) + ", due is " + shown(want));
-            }
-        }
+        dueText(call, shown(got), shown(want));
     }
 
     void due(String call, boolean got, boolean want) {
         due(call, got ? 1 : 0, want ? 1 : 0);
+    }
+
+    void dueText(String call, String got, String want) {
+        asked++;
+        if (!got.equals(want)) {
+            wrong++;
+            if (wrong <= MOST_SHOWN) {
+                System.out.println(call + " answered " + got + ", due is " + want);
+            }
+        }
     }
 
     void dueThrow(String call, Call made) {
