@@ -29,6 +29,7 @@ public final class RampBounds {
         slowingsOfSafeOnes();
         speedOfRamps();
         slowingAnswers();
+        tellings();
         calls512();
         s.end();
     }
@@ -319,6 +320,10 @@ public final class RampBounds {
         s.of("SLOWING: as few as can be");
         // 5 3 1 0 from 6; from (6, 2) with a jerk of 4 it is 4 2 0.
         s.due("slowing(6,0,0)=4 slowing(6,0,1)=9 " + FAST + "slowing(6,2,0)=3 slowing(6,2,1)=6 slowing(5,0,0)=3 slowing(5,0,1)=4");
+        s.of("SLOWING: TICKS from there to REST: none into a STATE without a way to it");
+        // From (0, 2) a TICK by 2 leads to (2, 2), and from there there is none; from (2, 1) it is 2 1 0, not 3.
+        s.due("limits(2,2,1)=true slowing(2,2,0)=-1 slowing(0,2,0)=3 slowing(0,2,1)=2 slowing(0,2,2)=1");
+        s.due("limits(3,1,1)=true bad(3,true)=true slowing(3,1,0)=-1 slowing(2,1,0)=3 slowing(2,1,1)=3 slowing(2,1,2)=0");
         s.of("SLOWING: then with as few steps");
         s.due(FAST + "slowing(3,0,0)=2 slowing(3,0,1)=1 slowing(3,0,2)=-2 slowing(5,0,2)=-2");
         s.of("SLOWING: (There may be none)");
@@ -375,6 +380,20 @@ public final class RampBounds {
         s.of("9: NONE: no such STATE");
         s.due("slowing(-1,0,0)=-1 slowing(7,0,0)=-1 slowing(7,-3,1)=-1 slowing(0,3,0)=-1 slowing(1,-3,2)=-1 slowing(MIN,0,0)=-1 "
                 + "slowing(MAX,0,0)=-1 slowing(0,MIN,0)=-1 slowing(0,MAX,0)=-1 slowing(MAX,MAX,MAX)=-1 slowing(MIN,MIN,MIN)=-1");
+    }
+
+    /** Rows that were found ahead of a telling are not those behind it, nor behind two of them. */
+    private static void tellings() {
+        s.of("2 to 6: what is told is so for the next RAMP and SLOWING, behind any other telling");
+        String[] told = {"limits(6,2,4)", "limits(5,3,2)", "bad(2,true)", "bad(2,false)", "pull(1,0)", "pull(3,99)", "pull(1,1000)",
+            "load(99,1)", "load(0,0)", "only(true)", "only(false)"};
+        String asked = " ramp(2) ramp(6) ramp(40) speed(6,0) speed(6,1) speed(40,2) slowing(4,1,0) slowing(4,1,1) slowing(5,0,2) ";
+        for (String first : told) {
+            for (String second : told) {
+                s.dueAsModel(asked + first + asked + second + asked + first + " " + second + asked);
+                s.dueAsModel("only(true) load(99,1) limits(6,2,4)" + asked + first + " " + second + asked + second + " " + first + asked);
+            }
+        }
     }
 
     /** The last call is answered as the first one is. */

@@ -31,6 +31,16 @@ final class Sentences {
         dueSteps("the model: ", new Plain(), steps);
     }
 
+    /** A run on a new object, each answer of it as the plain model finds it. */
+    void dueAsModel(String calls) {
+        Plain model = new Plain();
+        StringBuilder script = new StringBuilder();
+        for (String call : Script.callsOf(calls)) {
+            script.append(call).append('=').append(Script.make(model, call)).append(' ');
+        }
+        dueSteps("", new RampDriver(), Script.callsOf(script.toString()));
+    }
+
     private void dueSteps(String who, Object driver, String[] steps) {
         StringBuilder told = new StringBuilder();
         for (String step : steps) {

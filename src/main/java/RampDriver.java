@@ -256,6 +256,10 @@ public final class RampDriver {
         return isWithin(d, -TOP_STEPS, TOP_STEPS);
     }
 
+    private static boolean isIndexOf(int[] row, int index) {
+        return index >= 0 && index < row.length;
+    }
+
     private static int stateNumber(int v, int a) {
         return v * CHANGES + a + TOP_CHANGE;
     }
@@ -412,12 +416,11 @@ public final class RampDriver {
             if (version != rules.version) {
                 begin(rules);
             }
-            int start = nodeOf(0, 0, n);
-            while (looked < count && looked < found.length && ticks[start] == NONE) {
+            while (looked < count && isIndexOf(found, looked) && ticksAt(0, 0, n) == NONE) {
                 lookBehind(rules, found[looked]);
                 looked++;
             }
-            return ticks[start];
+            return ticksAt(0, 0, n);
         }
 
         int speedIn(Rules rules, int n, int t) {
@@ -468,18 +471,20 @@ public final class RampDriver {
             int w = state / CHANGES;
             int b = state % CHANGES - TOP_CHANGE;
             int v = w - b;
-            int left = node % LEFTS + w;
+            int leftBehind = node % LEFTS;
+            int left = leftBehind + w;
             if (left > TOP_STEPS || !rules.isSpeed(v) || !rules.mayEnd(w, b, rules.onlySafe)) {
                 return;
             }
+            int ticksBehind = ticksAt(w, b, leftBehind) + 1;
             int most = rules.mostBeside(b);
             for (int a = rules.leastBeside(b); a <= most; a++) {
-                find(nodeOf(v, a, left), ticks[node] + 1);
+                find(nodeOf(v, a, left), ticksBehind);
             }
         }
 
         private void find(int node, int atTicks) {
-            if (ticks[node] == NONE && count < found.length) {
+            if (isIndexOf(ticks, node) && ticks[node] == NONE && isIndexOf(found, count)) {
                 ticks[node] = atTicks;
                 found[count] = node;
                 count++;
@@ -487,7 +492,8 @@ public final class RampDriver {
         }
 
         private int ticksAt(int v, int a, int left) {
-            return isWithin(left, 0, TOP_STEPS) ? ticks[nodeOf(v, a, left)] : NONE;
+            int node = nodeOf(v, a, left);
+            return isWithin(left, 0, TOP_STEPS) && isIndexOf(ticks, node) ? ticks[node] : NONE;
         }
 
         private static int nodeOf(int v, int a, int left) {
@@ -510,11 +516,13 @@ public final class RampDriver {
 
         /** How many TICKS, of a STATE of the rules that they were found by. */
         int ticksFrom(int v, int a) {
-            return ticks[stateNumber(v, a)];
+            int state = stateNumber(v, a);
+            return isIndexOf(ticks, state) ? ticks[state] : NONE;
         }
 
         int stepsFrom(int v, int a) {
-            return steps[stateNumber(v, a)];
+            int state = stateNumber(v, a);
+            return isIndexOf(steps, state) ? steps[state] : NONE;
         }
 
         /** The greatest change by which the fewest TICKS go on with the fewest steps. */
@@ -548,7 +556,7 @@ public final class RampDriver {
                     find(stateNumber(0, a), 0, 0);
                 }
             }
-            for (int looked = 0; looked < count && looked < found.length; looked++) {
+            for (int looked = 0; looked < count && isIndexOf(found, looked); looked++) {
                 lookBehind(rules, found[looked]);
             }
         }
@@ -560,14 +568,19 @@ public final class RampDriver {
             if (!rules.isSpeed(v) || !rules.mayEnd(w, b, safeAlone)) {
                 return;
             }
+            int ticksBehind = ticksFrom(w, b) + 1;
+            int stepsBehind = stepsFrom(w, b) + w;
             int most = rules.mostBeside(b);
             for (int a = rules.leastBeside(b); a <= most; a++) {
-                find(stateNumber(v, a), ticks[state] + 1, steps[state] + w);
+                find(stateNumber(v, a), ticksBehind, stepsBehind);
             }
         }
 
         private void find(int state, int atTicks, int atSteps) {
-            if (ticks[state] == NONE && count < found.length) {
+            if (!isIndexOf(ticks, state) || !isIndexOf(steps, state)) {
+                return;
+            }
+            if (ticks[state] == NONE && isIndexOf(found, count)) {
                 ticks[state] = atTicks;
                 steps[state] = atSteps;
                 found[count] = state;
